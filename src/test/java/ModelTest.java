@@ -91,11 +91,15 @@ final class ModelTest {
         shop = new LayerShop();
         slow = new SlowShop();
         for (int k = 0; k < 8; k++) {
-            int x = upTo(11);
-            int y = upTo(11);
-            int x1 = x + upTo(11 - x);
-            int y1 = y + upTo(11 - y);
-            same("rect", shop.rect(k, x, y, x1, y1, true), slow.rect(k, x, y, x1, y1, true));
+            // odd numbers of masks are scattered, the even ones are of few figures
+            for (int n = k % 2 == 0 ? upTo(2) : 10 + upTo(20); n >= 0; n--) {
+                int x = upTo(11);
+                int y = upTo(11);
+                int x1 = x + upTo(Math.min(k % 2 == 0 ? 11 : 4, 11 - x));
+                int y1 = y + upTo(Math.min(k % 2 == 0 ? 11 : 4, 11 - y));
+                boolean on = k % 2 == 0 || upTo(2) > 0;
+                same("rect", shop.rect(k, x, y, x1, y1, on), slow.rect(k, x, y, x1, y1, on));
+            }
         }
     }
 

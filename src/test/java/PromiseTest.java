@@ -33,6 +33,8 @@ final class PromiseTest {
         stepsOfPlaces();
         stepsOfBoard();
         wavesOfTurn();
+        allWays();
+        allShafts();
         promise8();
         promise9();
         promise10();
@@ -227,8 +229,23 @@ final class PromiseTest {
         run(x, "lay b 1;\u00e9", -11, 8);
         run(x, "{ bare; };", -11, 0);
         run(x, "lay b -1;", -11, 6);
+        misspelt(x);
         due("nothing was done", x.volume(1), 144);
         due("nothing is to be undone", x.undo(), 0);
+    }
+
+    private static void misspelt(LayerShop x) {
+        String[] steps = {"lay b 1;", "cut b 1;", "dope b c 1 b;", "coat b 1;", "etch b 1;", "turn b c 1;", "fill b 1;", "flat 9;",
+            "drop;", "mask 1;", "bare;", "want b = 0;", "whole;", "repeat 1 {};"};
+        for (String step : steps) {
+            int length = step.replaceAll("[^a-z].*", "").length();
+            for (int i = 0; i < length; i++) {
+                run(x, step.substring(0, i) + "x" + step.substring(i + 1), -11, 0);
+            }
+            run(x, "x" + step, -11, 0);
+            run(x, step.substring(0, length) + "x" + step.substring(length), -11, 0);
+            run(x, step.substring(1), -11, 0);
+        }
     }
 
     private static void faultsOfNumbers() {
@@ -319,6 +336,11 @@ final class PromiseTest {
         run(x, "lay b 1;repeat 9{repeat 9{repeat 9{repeat 9{};};};};", -23, 35);
         due("top(0) after it failed", x.top(0), 0);
         due("the two done before", x.undo() + 10 * x.undo() + 100 * x.undo(), 11);
+        // a failure within a repeat leaves nothing to the next run
+        run(x, "repeat 3{repeat 3{lay b 1; want b = 0;};};", -21, 27);
+        done(x, "lay c 1;repeat 2{lay d 1;};", 4);
+        due("volume(2)", x.volume(2), 0);
+        due("volume(4)", x.volume(4), 288);
     }
 
     private static void stepsOfPlaces() {
@@ -468,6 +490,59 @@ final class PromiseTest {
         due("at(2, 2)", z.at(2, 2), 3);
         due("at(3, 2)", z.at(3, 2), 2);
         due("a stays", z.at(0, 0), 1);
+    }
+
+    /** From each place the wave of turn goes to the places beside it and to no others. */
+    private static void allWays() {
+        for (int place = 0; place < 144; place++) {
+            LayerShop x = new LayerShop();
+            int px = place % 12;
+            int py = place / 12;
+            x.rect(0, px, py, px, py, true);
+            done(x, "lay b 2; lay d 1; mask 0; cut d 1; turn b c 2;", 5);
+            for (int other = 0; other < 144; other++) {
+                int far = Math.abs(other % 12 - px) + Math.abs(other / 12 - py);
+                due("at(" + other + ", 2) of a wave from " + place, x.at(other, 2), far < 2 ? 3 : 2);
+                due("at(" + other + ", 1) of a wave from " + place, x.at(other, 1), far < 1 ? 3 : 2);
+            }
+            due("device(34, 0) of the wave", x.device(34, 0), x.volume(3) - 2);
+            done(x, "turn c b 20; turn b e 20; turn b f 20;", 3);
+            due("all that is joined turns but what is too far", x.volume(5) + x.volume(2), 288);
+            due("nothing turns without an open one", x.volume(6), 0);
+        }
+    }
+
+    /** At each place a shaft between full ones, and then a tower between empty ones. */
+    private static void allShafts() {
+        for (int place = 0; place < 144; place++) {
+            LayerShop x = new LayerShop();
+            x.rect(0, place % 12, place / 12, place % 12, place / 12, true);
+            done(x, "cut a 1; lay b 20; mask 0; cut b 20;", 4);
+            due("open in the shaft at " + place, x.volume(8), 20);
+            due("nets(2) beside the shaft", x.nets(2), 1);
+            done(x, "fill c 19;", 1);
+            due("filled", x.at(place, 0) * 100 + x.at(place, 18) * 10 + x.at(place, 19), 330);
+            due("net(0, 4, 0)", x.net(0, 4, 0), place);
+            due("net(0, 4, 1)", x.net(0, 4, 1), 19);
+            due("net(0, 4, 3)", x.net(0, 4, 3), 18);
+            done(x, "etch c 20; coat d 1;", 2);
+            due("coated from height 0 on", x.volume(4), 20);
+            due("thin(4, 20)", x.thin(4, 20), NONE);
+            done(x, "etch b 20;", 1);
+            due("a tower", x.volume(10) * 100 + x.volume(4), 2020);
+            due("net(0, 8, 3)", x.net(0, 8, 3), 19);
+            due("net(0, 8, 4)", x.net(0, 8, 4), 1);
+            due("device(4, 1)", x.device(4, 1), 1);
+            due("device(4, 2)", x.device(4, 2), place);
+            due("device(4, 3)", x.device(4, 3), 1);
+            due("device(44, 0)", x.device(44, 0), 0);
+            due("the tower stands", x.volume(9), 0);
+            done(x, "mask 0; cut d 19; coat e 1;", 3);
+            due("coat at height 0", x.at(place, 1) * 10 + x.at(place, 0), 54);
+            due("net(0, 8, 0)", x.net(0, 8, 0), place);
+            due("nets(8)", x.nets(8), 1);
+            due("netOf(place, 0, 8)", x.netOf(place, 0, 8), 0);
+        }
     }
 
     private static void promise8() {
@@ -763,6 +838,17 @@ final class PromiseTest {
         due("device(7, 2)", y.device(7, 2), NONE);
         due("device(7777, 0)", y.device(7777, 0), 0);
         due("device(1111, 0)", y.device(1111, 0), 0);
+        LayerShop full = Due.shopAfter("lay b 20;");
+        due("device(12, 0) up to height 19", full.device(12, 0), 144);
+        due("device(121, 0) beyond height 19", full.device(121, 0), 0);
+        // joined around corners: leftwards, and back upwards
+        LayerShop u = new LayerShop();
+        u.rect(0, 0, 2, 4, 2, true);
+        u.rect(0, 4, 0, 4, 2, true);
+        u.rect(0, 1, 0, 1, 2, true);
+        done(u, "mask 0; lay g 1;", 2);
+        due("device(7, 1)", u.device(7, 1), 1);
+        due("device(7, 3)", u.device(7, 3), 9);
         // the edge of a row does not join the next row
         LayerShop z = new LayerShop();
         z.rect(0, 11, 0, 11, 0, true);
