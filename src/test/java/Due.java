@@ -5,8 +5,14 @@ import java.util.Arrays;
 final class Due {
     private static int asked = 0;
     private static int wrong = 0;
+    private static String subject = "";
 
     private Due() {
+    }
+
+    /** What the next answers are about: it is told with the first wrong one. */
+    static void about(String what) {
+        subject = what;
     }
 
     static void due(String call, long got, long want) {
@@ -14,7 +20,9 @@ final class Due {
         if (got != want) {
             wrong++;
             if (wrong <= 40) {
+                System.out.print(subject.isEmpty() ? "" : subject + ":\n");
                 System.out.println(call + " answered " + got + ", due is " + want);
+                subject = "";
             }
         }
     }
