@@ -1,7 +1,7 @@
 import java.nio.charset.StandardCharsets;
 import java.util.Arrays;
 
-/** What the project's tests share: the count of wrong answers, and texts put on the tape. */
+/** What the project's tests share: the count of wrong answers, and how a text becomes the numbers of feed. */
 final class Due {
     private static int asked = 0;
     private static int wrong = 0;
@@ -48,29 +48,5 @@ final class Due {
             feeds[i / 20][i % 20 / 4] |= (padded[i] & 255) << 24 - i % 4 * 8;
         }
         return feeds;
-    }
-
-    /** Puts a text alone on the tape. */
-    static void tape(LayerShop shop, String text) {
-        byte[] bytes = bytesOf(text);
-        shop.cut(0);
-        for (int[] f : feedsOf(bytes)) {
-            shop.feed(f[0], f[1], f[2], f[3], f[4]);
-        }
-        due("cut(" + bytes.length + ") of [" + text + "]", shop.cut(bytes.length), (20 - bytes.length % 20) % 20);
-    }
-
-    /** Runs a text and looks at the answers of run() and place(). */
-    static void run(LayerShop shop, String text, int answer, int place) {
-        tape(shop, text);
-        due("run() of [" + text + "]", shop.run(), answer);
-        due("place() after [" + text + "]", shop.place(), place);
-    }
-
-    static LayerShop shopAfter(String text) {
-        LayerShop shop = new LayerShop();
-        tape(shop, text);
-        due("run() of [" + text + "] has no fault", shop.run() >= 0 ? 1 : 0, 1);
-        return shop;
     }
 }

@@ -116,7 +116,7 @@ final class FaceTest {
         long seed = 7;
         for (int round = 0; round < 40; round++) {
             LayerShop x = new LayerShop();
-            for (int call = 0; call < 512; call++) {
+            for (int call = 0; call < Shop.CALLS_MOST - 2; call++) {
                 int[] n = new int[6];
                 for (int i = 0; i < 6; i++) {
                     seed = seed * 6364136223846793005L + 1442695040888963407L;

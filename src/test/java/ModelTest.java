@@ -1,7 +1,7 @@
 /** Long runs of calls on the program and on SlowShop; each answer is held against the other. */
 final class ModelTest {
     private static long seed = 20240229;
-    private static LayerShop shop;
+    private static Shop shop;
     private static SlowShop slow;
     private static int faults = 0;
     private static int failures = 0;
@@ -83,37 +83,39 @@ final class ModelTest {
         }
     }
 
-    private static void same(String call, int got, int want) {
-        Due.due(call, got, want);
+    /** Holds the answer of the latest call against what is due. */
+    private static void same(int got, int want) {
+        Due.due(Shop.latestCall(), got, want);
     }
 
     private static void fresh() {
-        shop = new LayerShop();
+        shop = new Shop();
         slow = new SlowShop();
         for (int k = 0; k < 8; k++) {
             // odd numbers of masks are scattered, the even ones are of few figures
-            for (int n = k % 2 == 0 ? upTo(2) : 10 + upTo(20); n >= 0; n--) {
+            for (int n = k % 2 == 0 ? upTo(2) : 8 + upTo(4); n >= 0; n--) {
                 int x = upTo(11);
                 int y = upTo(11);
                 int x1 = x + upTo(Math.min(k % 2 == 0 ? 11 : 4, 11 - x));
                 int y1 = y + upTo(Math.min(k % 2 == 0 ? 11 : 4, 11 - y));
                 boolean on = k % 2 == 0 || upTo(2) > 0;
-                same("rect", shop.rect(k, x, y, x1, y1, on), slow.rect(k, x, y, x1, y1, on));
+                same(shop.rect(k, x, y, x1, y1, on), slow.rect(k, x, y, x1, y1, on));
             }
         }
     }
 
     private static void runText(String text) {
-        byte[] bytes = Due.bytesOf(text.length() > 600 ? text.substring(0, 600) : text);
-        same("cut(0)", shop.cut(0), slow.cut(0));
-        for (int[] f : Due.feedsOf(bytes)) {
-            same("feed", shop.feed(f[0], f[1], f[2], f[3], f[4]), slow.feed(f));
+        String most = text.length() > 600 ? text.substring(0, 600) : text;
+        shop.tape(most);
+        slow.cut(0);
+        for (int[] f : Due.feedsOf(Due.bytesOf(most))) {
+            slow.feed(f);
         }
-        same("cut", shop.cut(bytes.length), slow.cut(bytes.length));
+        slow.cut(most.length());
         int got = shop.run();
-        same("run() of [" + text + "]", got, slow.run());
-        same("place() after [" + text + "]", shop.place(), slow.place());
-        same("digest() after [" + text + "]", shop.digest(), slow.digest());
+        same(got, slow.run());
+        same(shop.place(), slow.place());
+        same(shop.digest(), slow.digest());
         if (got < -20) {
             failures++;
         } else if (got < -10) {
@@ -129,65 +131,82 @@ final class ModelTest {
         int z = upTo(6) == 0 ? upTo(23) - 2 : upTo(8);
         int order = upTo(2) == 0 ? upTo(8000) : upTo(1) == 0 ? 1 + upTo(6) : 10 * (1 + upTo(6)) + 1 + upTo(6);
         int what = upTo(13) - 1;
-        same("volume(" + what + ")", shop.volume(what), slow.volume(what));
+        same(shop.volume(what), slow.volume(what));
         for (int i = 0; i < 8; i++) {
             int p = upTo(10) == 0 ? upTo(150) - 3 : upTo(143);
             int part = upTo(4) - 1;
             int s = upTo(7) - 1;
-            same("at", shop.at(p, z), slow.at(p, z));
-            same("top", shop.top(p), slow.top(p));
-            same("span", shop.span(p, s, part), slow.span(p, s, part));
+            same(shop.at(p, z), slow.at(p, z));
+            same(shop.top(p), slow.top(p));
+            same(shop.span(p, s, part), slow.span(p, s, part));
             int high = i + upTo(5);
-            same("thin(" + s + ", " + high + ")", shop.thin(s, high), slow.thin(s, high));
+            same(shop.thin(s, high), slow.thin(s, high));
         }
-        same("nets(" + set + ")", shop.nets(set), slow.nets(set));
-        same("netOf", shop.netOf(place, z, set), slow.netOf(place, z, set));
+        same(shop.nets(set), slow.nets(set));
+        same(shop.netOf(place, z, set), slow.netOf(place, z, set));
         int net = upTo(3) - 1;
         int part = upTo(6) - 1;
-        same("net(" + net + ", " + set + ", " + part + ")", shop.net(net, set, part), slow.net(net, set, part));
+        same(shop.net(net, set, part), slow.net(net, set, part));
         int other = upTo(144);
-        same("joined", shop.joined(place, other, set), slow.joined(place, other, set));
+        same(shop.joined(place, other, set), slow.joined(place, other, set));
         int ask = upTo(4);
-        same("device(" + order + ", " + ask + ")", shop.device(order, ask), slow.device(order, ask));
+        same(shop.device(order, ask), slow.device(order, ask));
     }
 
     private static void askPage() {
         int axis = upTo(8) == 0 ? upTo(3) - 1 : upTo(1);
         int where = upTo(13) - 1;
-        same("section", shop.section(axis, where), slow.section(axis, where));
+        same(shop.section(axis, where), slow.section(axis, where));
         for (int i = -1; i <= 260; i++) {
-            same("out(" + i + ")", shop.out(i), slow.out(i));
+            same(shop.out(i), slow.out(i));
         }
     }
 
     private static void askMasks() {
         int k = upTo(9) - 1;
         int p = upTo(145) - 1;
-        same("masked", shop.masked(k, p), slow.masked(k, p));
+        same(shop.masked(k, p), slow.masked(k, p));
         if (upTo(3) == 0) {
-            same("turned", shop.turned(k), slow.turned(k));
+            same(shop.turned(k), slow.turned(k));
         }
         int[] v = {upTo(13) - 1, upTo(13) - 1, upTo(13) - 1, upTo(13) - 1};
         boolean on = upTo(2) > 0;
-        same("rect", shop.rect(k, v[0], v[1], v[2], v[3], on), slow.rect(k, v[0], v[1], v[2], v[3], on));
+        same(shop.rect(k, v[0], v[1], v[2], v[3], on), slow.rect(k, v[0], v[1], v[2], v[3], on));
+    }
+
+    private static void undoSome() {
+        for (int undo = upTo(4) == 0 ? upTo(7) : 0; undo > 0; undo--) {
+            same(shop.undo(), slow.undo());
+            same(shop.digest(), slow.digest());
+            same(shop.place(), slow.place());
+        }
+    }
+
+    /** Goes on with one object as long as its answers are promised. */
+    private static void round() {
+        fresh();
+        // a text of 600 bytes, its run, the questions and seven undos
+        while (shop.callsLeft() >= 35 + 38 + 3 + 21) {
+            runText(upTo(9) == 0 ? oddText() : program(0, upTo(8)));
+            askBoard();
+            askMasks();
+            undoSome();
+        }
+    }
+
+    /** A cross-cut and each of its bytes are half of the calls that an object has. */
+    private static void pageRound() {
+        fresh();
+        while (shop.callsLeft() >= 35 + 263) {
+            runText(program(0, upTo(8)));
+        }
+        askPage();
     }
 
     public static void main(String[] args) {
-        for (int round = 0; round < 60; round++) {
-            fresh();
-            for (int i = 0; i < 12; i++) {
-                runText(upTo(9) == 0 ? oddText() : program(0, upTo(8)));
-                askBoard();
-                askMasks();
-                if (upTo(5) == 0) {
-                    askPage();
-                }
-                for (int undo = upTo(4) == 0 ? upTo(7) : 0; undo > 0; undo--) {
-                    same("undo()", shop.undo(), slow.undo());
-                    same("digest() after undo", shop.digest(), slow.digest());
-                    same("place() after undo", shop.place(), slow.place());
-                }
-            }
+        for (int i = 0; i < 80; i++) {
+            round();
+            pageRound();
         }
         System.out.println(successes + " programs done, " + failures + " failed, " + faults + " with a fault");
         Due.end();

@@ -1,3 +1,5 @@
+import java.util.Arrays;
+
 /** Each promise by itself, with answers worked out by hand: ordinary inputs, edges, wrong inputs. */
 final class PromiseTest {
     private static final int NONE = -1, UNKNOWN = -101, OUTSIDE = -102, FULL = -104;
@@ -9,12 +11,12 @@ final class PromiseTest {
         Due.due(call, got, want);
     }
 
-    private static void run(LayerShop shop, String text, int answer, int place) {
-        Due.run(shop, text, answer, place);
+    private static void run(Shop shop, String text, int answer, int place) {
+        shop.ran(text, answer, place);
     }
 
-    private static void done(LayerShop shop, String text, int steps) {
-        Due.run(shop, text, steps, NONE);
+    private static void done(Shop shop, String text, int steps) {
+        shop.ran(text, steps, NONE);
     }
 
     public static void main(String[] args) {
@@ -54,12 +56,15 @@ final class PromiseTest {
     }
 
     private static void promise1() {
-        LayerShop x = new LayerShop();
+        Shop x = new Shop();
         for (int place = 0; place < 144; place++) {
             due("at(" + place + ", 0) of a new object", x.at(place, 0), 1);
             due("at(" + place + ", 1) of a new object", x.at(place, 1), 0);
-            for (int k = 0; k < 8; k++) {
-                due("masked(" + k + ", " + place + ") of a new object", x.masked(k, place), 0);
+        }
+        for (int k = 0; k < 8; k++) {
+            Shop y = new Shop();
+            for (int place = 0; place < 144; place++) {
+                due("masked(" + k + ", " + place + ") of a new object", y.masked(k, place), 0);
             }
         }
         due("volume(0) of a new object", x.volume(0), 2736);
@@ -72,7 +77,7 @@ final class PromiseTest {
     }
 
     private static void promise2() {
-        LayerShop x = new LayerShop();
+        Shop x = new Shop();
         due("rect of one place", x.rect(0, 0, 0, 0, 0, true), 1);
         due("rect of the last place", x.rect(0, 11, 11, 11, 11, true), 2);
         due("rect again", x.rect(0, 11, 11, 11, 11, true), 2);
@@ -93,7 +98,7 @@ final class PromiseTest {
     }
 
     private static void promise3() {
-        LayerShop x = new LayerShop();
+        Shop x = new Shop();
         x.rect(5, 2, 3, 4, 3, true);
         int[] in = {38, 39, 40};
         for (int place = 0; place < 144; place++) {
@@ -109,7 +114,7 @@ final class PromiseTest {
     }
 
     private static void promise4() {
-        LayerShop x = new LayerShop();
+        Shop x = new Shop();
         due("turned of an empty mask", x.turned(0), 144);
         due("turned of a full mask", x.turned(0), 0);
         x.rect(7, 0, 0, 11, 0, true);
@@ -122,7 +127,7 @@ final class PromiseTest {
     }
 
     private static void promise5() {
-        LayerShop x = new LayerShop();
+        Shop x = new Shop();
         for (int i = 1; i <= 30; i++) {
             due("feed " + i, x.feed(i, 0, -1, 0, 0), 20 * i);
         }
@@ -132,7 +137,7 @@ final class PromiseTest {
         due("feed behind 581", x.feed(1, 2, 3, 4, 5), FULL);
         due("cut(580)", x.cut(580), 1);
         due("feed behind 580", x.feed(1, 2, 3, 4, 5), 600);
-        LayerShop y = new LayerShop();
+        Shop y = new Shop();
         // "lay g 2;" and twelve blanks: the order of the bytes is what makes it a program
         due("feed of a program", y.feed(0x6c617920, 0x6720323b, 0x20202020, 0x20202020, 0x20202020), 20);
         due("run() of it", y.run(), 1);
@@ -148,7 +153,7 @@ final class PromiseTest {
     }
 
     private static void promise6() {
-        LayerShop x = new LayerShop();
+        Shop x = new Shop();
         x.feed(0x62617265, 0x3b626172, 0x653b2020, 0x20202020, 0x20202020);
         due("cut(20)", x.cut(20), 0);
         due("cut(21)", x.cut(21), OUTSIDE);
@@ -164,7 +169,7 @@ final class PromiseTest {
     }
 
     private static void promise7() {
-        LayerShop x = new LayerShop();
+        Shop x = new Shop();
         done(x, "", 0);
         done(x, "  \n ", 0);
         done(x, "lay b 1;", 1);
@@ -176,7 +181,7 @@ final class PromiseTest {
         done(x, "repeat 3 { bare; };", 4);
         done(x, "repeat 3 { bare; repeat 2 { bare; drop; }; }; bare;", 1 + 3 * (1 + 1 + 4) + 1);
         due("top(0) after those", x.top(0), 4);
-        LayerShop y = new LayerShop();
+        Shop y = new Shop();
         y.rect(0, 0, 0, 0, 0, true);
         done(y, "mask 0; lay b 1;", 2);
         done(y, "lay c 1;", 1);
@@ -187,7 +192,7 @@ final class PromiseTest {
     }
 
     private static void faultsOfPlace() {
-        LayerShop x = new LayerShop();
+        Shop x = new Shop();
         run(x, "lay", -11, 3);
         run(x, "lay b", -11, 5);
         run(x, "lay b 1", -11, 7);
@@ -229,15 +234,16 @@ final class PromiseTest {
         run(x, "lay b 1;\u00e9", -11, 8);
         run(x, "{ bare; };", -11, 0);
         run(x, "lay b -1;", -11, 6);
-        misspelt(x);
         due("nothing was done", x.volume(1), 144);
         due("nothing is to be undone", x.undo(), 0);
+        misspelt();
     }
 
-    private static void misspelt(LayerShop x) {
+    private static void misspelt() {
         String[] steps = {"lay b 1;", "cut b 1;", "dope b c 1 b;", "coat b 1;", "etch b 1;", "turn b c 1;", "fill b 1;", "flat 9;",
             "drop;", "mask 1;", "bare;", "want b = 0;", "whole;", "repeat 1 {};"};
         for (String step : steps) {
+            Shop x = new Shop();
             int length = step.replaceAll("[^a-z].*", "").length();
             for (int i = 0; i < length; i++) {
                 run(x, step.substring(0, i) + "x" + step.substring(i + 1), -11, 0);
@@ -245,11 +251,13 @@ final class PromiseTest {
             run(x, "x" + step, -11, 0);
             run(x, step.substring(0, length) + "x" + step.substring(length), -11, 0);
             run(x, step.substring(1), -11, 0);
+            due("nothing was done", x.volume(1), 144);
+            due("nothing is to be undone", x.undo(), 0);
         }
     }
 
     private static void faultsOfNumbers() {
-        LayerShop x = new LayerShop();
+        Shop x = new Shop();
         run(x, "lay b 0;", -12, 6);
         run(x, "lay b 00;", -12, 6);
         run(x, "lay b 21;", -12, 6);
@@ -279,7 +287,7 @@ final class PromiseTest {
     }
 
     private static void faultsOfRepeatsAndSteps() {
-        LayerShop x = new LayerShop();
+        Shop x = new Shop();
         done(x, "repeat 1{repeat 1{repeat 1{repeat 1{bare;};};};};", 5);
         run(x, "repeat 1{repeat 1{repeat 1{repeat 1{repeat 1{bare;};};};};};", -13, 36);
         run(x, "repeat 1{repeat 1{repeat 1{repeat 1{repeat", -13, 36);
@@ -300,7 +308,7 @@ final class PromiseTest {
     }
 
     private static void tokens() {
-        LayerShop x = new LayerShop();
+        Shop x = new Shop();
         done(x, "lay b1;lay\nc\n2\n;", 2);
         due("volume(2)", x.volume(2), 144);
         due("volume(3)", x.volume(3), 288);
@@ -314,7 +322,7 @@ final class PromiseTest {
     }
 
     private static void failures() {
-        LayerShop x = new LayerShop();
+        Shop x = new Shop();
         done(x, "want a > 14; want a < 15;", 2);
         run(x, "want a = 14;", -21, 0);
         run(x, "lay b 5; want b = 71;", -21, 9);
@@ -344,7 +352,7 @@ final class PromiseTest {
     }
 
     private static void stepsOfPlaces() {
-        LayerShop x = new LayerShop();
+        Shop x = new Shop();
         x.rect(0, 0, 0, 0, 0, true);
         x.rect(1, 1, 0, 1, 0, true);
         // lay: as far as there are any
@@ -382,7 +390,7 @@ final class PromiseTest {
         due("at(1, 7)", x.at(1, 7), 7);
         due("at(1, 3)", x.at(1, 3), 3);
         // an empty cube stops dope, too
-        LayerShop y = new LayerShop();
+        Shop y = new Shop();
         y.rect(0, 7, 7, 7, 7, true);
         done(y, "mask 0; lay b 1; lay c 1; lay b 1; etch c 1; dope b d 20 abc;", 6);
         due("above the hole", y.at(91, 3), 4);
@@ -391,7 +399,7 @@ final class PromiseTest {
 
     private static void stepsOfBoard() {
         // a tower of 2 by 2 with a roof: masks do not matter to coat, etch, turn, fill
-        LayerShop x = new LayerShop();
+        Shop x = new Shop();
         x.rect(0, 5, 5, 6, 6, true);
         x.rect(1, 4, 4, 7, 7, true);
         done(x, "mask 0; lay b 3; coat c 1;", 3);
@@ -403,7 +411,7 @@ final class PromiseTest {
         done(x, "coat d 2;", 1);
         due("coat twice goes two up", x.at(0, 3), 4);
         due("coat twice goes no further", x.at(0, 4), 0);
-        LayerShop y = Due.shopAfter("coat b 20;");
+        Shop y = Shop.after("coat b 20;");
         due("coat to the height of the board", y.volume(2), 2736);
         done(y, "etch b 1;", 1);
         due("etch from height 19, once", y.volume(0), 144);
@@ -418,7 +426,7 @@ final class PromiseTest {
 
     private static void caves() {
         // a pipe of d under a roof of c: it becomes a cave when etched from one end, and the end is closed
-        LayerShop x = new LayerShop();
+        Shop x = new Shop();
         x.rect(0, 0, 0, 11, 0, true);
         x.rect(1, 0, 0, 0, 0, true);
         done(x, "lay b 1; mask 0; cut b 1; lay d 1; bare; lay c 1;", 6);
@@ -451,7 +459,7 @@ final class PromiseTest {
         done(x, "fill g 20;", 1);
         due("fill 20", x.volume(7), 2880);
         // drop: corners do not hold
-        LayerShop y = new LayerShop();
+        Shop y = new Shop();
         y.rect(0, 0, 0, 0, 0, true);
         y.rect(1, 0, 0, 1, 0, true);
         done(y, "mask 1; lay b 1; lay c 1; bare; etch b 1; drop;", 6);
@@ -464,7 +472,7 @@ final class PromiseTest {
     }
 
     private static void wavesOfTurn() {
-        LayerShop x = new LayerShop();
+        Shop x = new Shop();
         done(x, "lay b 9; turn b c 1;", 2);
         due("turn once", x.volume(3), 144);
         due("at(0, 9)", x.at(0, 9), 3);
@@ -476,12 +484,12 @@ final class PromiseTest {
         due("at(0, 6)", x.at(0, 6), 2);
         done(x, "turn b b 20; turn c c 2;", 2);
         due("into itself", x.volume(2), 864);
-        LayerShop y = Due.shopAfter("lay b 20; turn b c 1;");
+        Shop y = Shop.after("lay b 20; turn b c 1;");
         due("turn at height 19", y.volume(3), 144);
         done(y, "turn b d 20;", 1);
         due("turn below height 19: none is beside an open one", y.volume(4), 0);
         // the wave goes sideways and down, at once
-        LayerShop z = new LayerShop();
+        Shop z = new Shop();
         z.rect(0, 1, 0, 11, 11, true);
         z.rect(0, 0, 1, 0, 11, true);
         done(z, "lay b 2; mask 0; lay d 1; bare; turn b c 3;", 5);
@@ -495,7 +503,7 @@ final class PromiseTest {
     /** From each place the wave of turn goes to the places beside it and to no others. */
     private static void allWays() {
         for (int place = 0; place < 144; place++) {
-            LayerShop x = new LayerShop();
+            Shop x = new Shop();
             int px = place % 12;
             int py = place / 12;
             x.rect(0, px, py, px, py, true);
@@ -515,7 +523,7 @@ final class PromiseTest {
     /** At each place a shaft between full ones, and then a tower between empty ones. */
     private static void allShafts() {
         for (int place = 0; place < 144; place++) {
-            LayerShop x = new LayerShop();
+            Shop x = new Shop();
             x.rect(0, place % 12, place / 12, place % 12, place / 12, true);
             done(x, "cut a 1; lay b 20; mask 0; cut b 20;", 4);
             due("open in the shaft at " + place, x.volume(8), 20);
@@ -546,7 +554,7 @@ final class PromiseTest {
     }
 
     private static void promise8() {
-        LayerShop x = new LayerShop();
+        Shop x = new Shop();
         due("place() ahead of any run", x.place(), NONE);
         run(x, "lay b 1; oops", -11, 9);
         x.undo();
@@ -560,7 +568,7 @@ final class PromiseTest {
     }
 
     private static void promise9() {
-        LayerShop x = new LayerShop();
+        Shop x = new Shop();
         for (int i = 1; i <= 8; i++) {
             done(x, "lay b 1;", 1);
         }
@@ -588,7 +596,7 @@ final class PromiseTest {
         due("the masks stay", x.masked(0, 0), 1);
         due("no more", x.undo(), 0);
         // a run that fails costs none of six
-        LayerShop y = new LayerShop();
+        Shop y = new Shop();
         for (int i = 0; i < 6; i++) {
             done(y, "lay b 1;", 1);
         }
@@ -598,12 +606,12 @@ final class PromiseTest {
         for (int i = 0; i < 6; i++) {
             due("undo() " + i, y.undo(), 1);
         }
-        due("digest() is as at first", y.digest(), new LayerShop().digest());
+        due("digest() is as at first", y.digest(), new Shop().digest());
         due("undo()", y.undo(), 0);
     }
 
     private static void promise10() {
-        LayerShop x = new LayerShop();
+        Shop x = new Shop();
         x.rect(0, 11, 11, 11, 11, true);
         x.rect(1, 3, 2, 3, 2, true);
         done(x, "mask 0; lay g 19; mask 1; lay f 1;", 4);
@@ -618,7 +626,7 @@ final class PromiseTest {
     }
 
     private static void promise11() {
-        LayerShop x = new LayerShop();
+        Shop x = new Shop();
         x.rect(0, 0, 0, 5, 11, true);
         done(x, "mask 0; cut a 1;", 2);
         due("top(0)", x.top(0), NONE);
@@ -633,7 +641,7 @@ final class PromiseTest {
     }
 
     private static void promise12() {
-        LayerShop x = new LayerShop();
+        Shop x = new Shop();
         x.rect(0, 0, 0, 11, 0, true);
         x.rect(1, 0, 0, 0, 0, true);
         done(x, "lay b 1; mask 0; cut b 1; lay d 1; bare; lay c 1; mask 1; cut c 1; bare; etch d 20; mask 1; lay e 1; lay f 1; lay g 1;", 14);
@@ -647,14 +655,14 @@ final class PromiseTest {
         due("volume(9)", x.volume(9), 0);
         due("volume(12)", x.volume(12), OUTSIDE);
         due("volume(-1)", x.volume(-1), OUTSIDE);
-        LayerShop y = Due.shopAfter("lay b 20;");
+        Shop y = Shop.after("lay b 20;");
         due("volume(8) of a full board", y.volume(8), 0);
         due("volume(0) of a full board", y.volume(0), 0);
         floating();
     }
 
     private static void floating() {
-        LayerShop x = new LayerShop();
+        Shop x = new Shop();
         x.rect(0, 0, 0, 1, 0, true);
         x.rect(1, 2, 0, 2, 0, true);
         done(x, "mask 0; lay b 1; lay c 2; etch b 1;", 4);
@@ -667,7 +675,7 @@ final class PromiseTest {
     }
 
     private static void promise13() {
-        LayerShop x = new LayerShop();
+        Shop x = new Shop();
         x.rect(0, 4, 4, 4, 4, true);
         done(x, "mask 0; lay b 2; lay c 1; lay b 3; lay e 1; bare; etch c 1;", 7);
         int[][] spans = {{1, 1, 0}, {2, 2, 1}, {0, 1, 3}, {2, 3, 4}, {5, 1, 7}};
@@ -696,7 +704,7 @@ final class PromiseTest {
     }
 
     private static void promise14() {
-        LayerShop x = new LayerShop();
+        Shop x = new Shop();
         x.rect(0, 0, 1, 11, 11, true);
         done(x, "lay b 2; mask 0; lay c 1; lay b 1;", 4);
         due("thin(2, 1)", x.thin(2, 1), NONE);
@@ -710,13 +718,13 @@ final class PromiseTest {
         due("thin(8, 5)", x.thin(8, 5), OUTSIDE);
         due("thin(1, 0)", x.thin(1, 0), OUTSIDE);
         due("thin(1, 21)", x.thin(1, 21), OUTSIDE);
-        LayerShop y = Due.shopAfter("cut a 1; lay g 20;");
+        Shop y = Shop.after("cut a 1; lay g 20;");
         due("thin(7, 20): it is 20 high", y.thin(7, 20), NONE);
     }
 
     /** Two bars of b along y, at x 2 and at x 4, and over a part of them c at height 2. */
-    private static LayerShop bars() {
-        LayerShop x = new LayerShop();
+    private static Shop bars() {
+        Shop x = new Shop();
         x.rect(0, 2, 0, 2, 11, true);
         x.rect(1, 4, 3, 4, 8, true);
         x.rect(2, 2, 5, 4, 5, true);
@@ -725,7 +733,7 @@ final class PromiseTest {
     }
 
     private static void promise15() {
-        LayerShop x = bars();
+        Shop x = bars();
         due("nets(2)", x.nets(2), 2);
         due("nets(4): at place 63 c lies lower than at 62 and 64", x.nets(4), 3);
         due("nets(6)", x.nets(6), 1);
@@ -735,7 +743,7 @@ final class PromiseTest {
         due("nets(0)", x.nets(0), 0);
         due("nets(128)", x.nets(128), OUTSIDE);
         due("nets(-1)", x.nets(-1), OUTSIDE);
-        LayerShop y = new LayerShop();
+        Shop y = new Shop();
         for (int i = 0; i < 12; i++) {
             for (int j = i % 2; j < 12; j += 2) {
                 y.rect(0, j, i, j, i, true);
@@ -746,7 +754,7 @@ final class PromiseTest {
     }
 
     private static void promise16() {
-        LayerShop x = bars();
+        Shop x = bars();
         due("netOf(2, 1, 2)", x.netOf(2, 1, 2), 0);
         due("netOf(134, 1, 2)", x.netOf(134, 1, 2), 0);
         due("netOf(40, 1, 2)", x.netOf(40, 1, 2), 1);
@@ -765,7 +773,7 @@ final class PromiseTest {
     }
 
     private static void promise17() {
-        LayerShop x = bars();
+        Shop x = bars();
         int[][] nets = {{146, 12, 1, 1, 12}, {184, 6, 1, 1, 6}};
         for (int what = 0; what < 5; what++) {
             due("net(0, 2, " + what + ")", x.net(0, 2, what), nets[0][what]);
@@ -788,7 +796,7 @@ final class PromiseTest {
     }
 
     private static void promise18() {
-        LayerShop x = bars();
+        Shop x = bars();
         due("joined(2, 26, 2)", x.joined(2, 26, 2), 1);
         due("joined(2, 40, 2)", x.joined(2, 40, 2), 0);
         due("joined(2, 40, 6)", x.joined(2, 40, 6), 1);
@@ -808,7 +816,7 @@ final class PromiseTest {
     }
 
     private static void promise19() {
-        LayerShop x = bars();
+        Shop x = bars();
         int[][] want = {{12, 0, 18}, {12, 1, 2}, {12, 2, 2}, {12, 3, 12}, {123, 0, 2}, {123, 1, 2}, {123, 2, 62}, {123, 3, 1},
             {13, 0, 1}, {13, 2, 63}, {1, 0, 144}, {1, 1, 1}, {1, 3, 144}, {23, 0, 2},
             {321, 0, 0}, {321, 1, 0}, {321, 2, NONE}, {321, 3, 0}, {1123, 0, 0}};
@@ -816,7 +824,7 @@ final class PromiseTest {
             due("device(" + w[0] + ", " + w[1] + ")", x.device(w[0], w[1]), w[2]);
         }
         // an empty span comes between; the second of two ways to begin fits; four stuffs
-        LayerShop y = new LayerShop();
+        Shop y = new Shop();
         y.rect(0, 0, 0, 11, 1, true);
         done(y, "mask 0; lay b 1; lay c 2; lay b 3; lay c 1; lay d 1; bare;", 7);
         due("device(234, 0)", y.device(234, 0), 24);
@@ -838,11 +846,11 @@ final class PromiseTest {
         due("device(7, 2)", y.device(7, 2), NONE);
         due("device(7777, 0)", y.device(7777, 0), 0);
         due("device(1111, 0)", y.device(1111, 0), 0);
-        LayerShop full = Due.shopAfter("lay b 20;");
+        Shop full = Shop.after("lay b 20;");
         due("device(12, 0) up to height 19", full.device(12, 0), 144);
         due("device(121, 0) beyond height 19", full.device(121, 0), 0);
         // joined around corners: leftwards, and back upwards
-        LayerShop u = new LayerShop();
+        Shop u = new Shop();
         u.rect(0, 0, 2, 4, 2, true);
         u.rect(0, 4, 0, 4, 2, true);
         u.rect(0, 1, 0, 1, 2, true);
@@ -850,7 +858,7 @@ final class PromiseTest {
         due("device(7, 1)", u.device(7, 1), 1);
         due("device(7, 3)", u.device(7, 3), 9);
         // the edge of a row does not join the next row
-        LayerShop z = new LayerShop();
+        Shop z = new Shop();
         z.rect(0, 11, 0, 11, 0, true);
         z.rect(0, 0, 1, 0, 1, true);
         done(z, "mask 0; lay g 1;", 2);
@@ -859,7 +867,7 @@ final class PromiseTest {
     }
 
     private static void promise20() {
-        LayerShop x = new LayerShop();
+        Shop x = new Shop();
         x.rect(0, 3, 0, 3, 11, true);
         x.rect(1, 0, 5, 11, 5, true);
         done(x, "mask 0; lay b 2; mask 1; lay c 1;", 4);
@@ -888,7 +896,7 @@ final class PromiseTest {
     }
 
     private static void closedCubes() {
-        LayerShop x = new LayerShop();
+        Shop x = new Shop();
         x.rect(0, 0, 0, 11, 0, true);
         x.rect(1, 0, 0, 0, 0, true);
         done(x, "lay b 1; mask 0; cut b 1; lay d 1; bare; lay c 1; mask 1; cut c 1; bare; etch d 3;", 10);
@@ -899,14 +907,14 @@ final class PromiseTest {
         page(x, 13 * 17, ".ccccccccccc\ng--ddddddddd\naaaaaaaaaaaa\n");
     }
 
-    private static void page(LayerShop shop, int from, String text) {
+    private static void page(Shop shop, int from, String text) {
         for (int i = 0; i < text.length(); i++) {
             due("out(" + (from + i) + ") of a section", shop.out(from + i), text.charAt(i));
         }
     }
 
     private static void promise21() {
-        LayerShop x = new LayerShop();
+        Shop x = new Shop();
         due("out(0)", x.out(0), NONE);
         due("section(0, 12)", x.section(0, 12), OUTSIDE);
         due("out(0) after it", x.out(0), NONE);
@@ -925,26 +933,34 @@ final class PromiseTest {
     }
 
     private static void promise22() {
-        LayerShop x = new LayerShop();
-        due("digest()", x.digest(), digestOf(x));
+        Shop x = new Shop();
+        int[] cubes = new int[2880];
+        Arrays.fill(cubes, 0, 144, 1);
+        due("digest()", x.digest(), digestOf(cubes));
         x.rect(0, 11, 11, 11, 11, true);
         done(x, "mask 0; lay g 19;", 2);
-        due("digest()", x.digest(), digestOf(x));
-        x.rect(1, 1, 0, 4, 3, true);
-        done(x, "mask 1; lay e 3; coat c 2;", 3);
-        due("digest()", x.digest(), digestOf(x));
-        done(x, "flat 0;", 1);
-        int empty = 7;
-        for (int i = 0; i < 2880; i++) {
-            empty *= 31;
+        for (int z = 1; z < 20; z++) {
+            cubes[144 * z + 143] = 7;
         }
-        due("digest() of nothing", x.digest(), empty);
+        due("digest()", x.digest(), digestOf(cubes));
+        x.rect(1, 1, 0, 4, 3, true);
+        done(x, "mask 1; lay e 3; cut e 1; lay c 1;", 4);
+        for (int y = 0; y < 4; y++) {
+            for (int i = 1; i < 5; i++) {
+                cubes[144 + 12 * y + i] = 5;
+                cubes[288 + 12 * y + i] = 5;
+                cubes[432 + 12 * y + i] = 3;
+            }
+        }
+        due("digest()", x.digest(), digestOf(cubes));
+        done(x, "flat 0;", 1);
+        due("digest() of nothing", x.digest(), digestOf(new int[2880]));
     }
 
-    private static int digestOf(LayerShop shop) {
+    private static int digestOf(int[] cubes) {
         int d = 7;
-        for (int cube = 0; cube < 2880; cube++) {
-            d = 31 * d + shop.at(cube % 144, cube / 144);
+        for (int cube : cubes) {
+            d = 31 * d + cube;
         }
         return d;
     }

@@ -38,6 +38,11 @@ final class Shop {
         return call.on(shop);
     }
 
+    /** How many calls are left until what is answered is free. */
+    int callsLeft() {
+        return CALLS_MOST - calls.size();
+    }
+
     // ---- the calls
 
     int rect(int k, int x0, int y0, int x1, int y1, boolean on) {
@@ -132,7 +137,8 @@ final class Shop {
         for (int[] f : Due.feedsOf(bytes)) {
             feed(f[0], f[1], f[2], f[3], f[4]);
         }
-        cut(before + bytes.length);
+        int blanks = (20 - bytes.length % 20) % 20;
+        Due.due("cut(" + (before + bytes.length) + ") of the blanks behind [" + more + "]", cut(before + bytes.length), blanks);
         text = before == 0 ? more : text + more;
     }
 
@@ -142,7 +148,8 @@ final class Shop {
         put(alone, 0);
     }
 
-    private void ran(String program, int answer, int byteOf) {
+    /** Runs a text alone, and looks at the answers of run() and place(). */
+    void ran(String program, int answer, int byteOf) {
         tape(program);
         Due.due(latestName("run"), run(), answer);
         Due.due(latestName("place"), place(), byteOf);
@@ -169,6 +176,14 @@ final class Shop {
         int before = digest();
         ran(program, -20 - number, byteOf);
         Due.due("digest() after the failure of [" + program + "]", digest(), before);
+    }
+
+    /** A new one after a program that is done. */
+    static Shop after(String program) {
+        Shop shop = new Shop();
+        shop.tape(program);
+        Due.due("run() of [" + program + "] has no fault", shop.run() >= 0 ? 1 : 0, 1);
+        return shop;
     }
 
     /** A mask becomes just these places. */
