@@ -110,6 +110,8 @@ final class EdgesOfRefusals {
 
     private static void from(Shop x) {
         before = x.calls();
+        // a call, and up to 288 questions, come behind these
+        Due.due("calls that led to the state", Math.min(before.size(), Shop.CALLS_MOST - 289), before.size());
         answers = new ArrayList<>();
         for (int question = 0; question < QUESTIONS; question++) {
             answers.add(ask(again(before), question, true));

@@ -130,25 +130,19 @@ final class ReadmeTest {
 
     /** Each test stands in the commands, and in the list that says what it is. */
     private static void allIsNamed(String text) throws IOException {
-        for (Path file : filesOf(Path.of("src/test/java"))) {
+        List<Path> files;
+        try (Stream<Path> all = Files.list(Path.of("src/test/java"))) {
+            files = all.sorted().toList();
+        }
+        for (Path file : files) {
             String name = file.getFileName().toString().replace(".java", "");
             if (name.endsWith("Test")) {
                 Due.due("README.md has a command for " + name, commands.contains("java -cp build " + name) ? 1 : 0, 1);
                 Due.due("README.md says what " + name + " is", text.contains("\n- `" + name + "`: ") ? 1 : 0, 1);
             }
         }
-        for (Path file : filesOf(Path.of("../shared/tests"))) {
-            String name = file.getFileName().toString().replace(".java", "");
-            Due.due("README.md has a command for " + name, commands.contains("java -cp build/shared " + name) ? 1 : 0, 1);
-        }
         Due.due("README.md has the command .ci/run", commands.contains(".ci/run") ? 1 : 0, 1);
         Due.due(".ci/run can be run", Files.isExecutable(Path.of(".ci/run")) ? 1 : 0, 1);
-    }
-
-    private static List<Path> filesOf(Path directory) throws IOException {
-        try (Stream<Path> files = Files.list(directory)) {
-            return files.filter(f -> f.toString().endsWith(".java")).sorted().toList();
-        }
     }
 
     /** The commands, in a room of their own where the sources stand as they do here; not those that would run this test again. */
